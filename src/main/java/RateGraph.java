@@ -192,10 +192,11 @@ public final class RateGraph {
         if (culprit != NOBODY) {
             return INCONSISTENT - culprit;
         }
-        length = keepRepetitions();
-        if (length > MOST_FIRINGS) {
+        int sum = keepRepetitions();
+        if (sum > MOST_FIRINGS) {
             return BIG;
         }
+        length = sum;
         int stuck = makeSchedule(policy);
         if (stuck != NOBODY) {
             return DEADLOCK - stuck;

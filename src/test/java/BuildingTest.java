@@ -18,13 +18,6 @@ public final class BuildingTest {
         check.end();
     }
 
-    private static RateGraph pair() {
-        RateGraph graph = new RateGraph();
-        graph.actor(0, 0, 1);
-        graph.actor(1, 0, 1);
-        return graph;
-    }
-
     private static void newObjectIsEmpty() {
         RateGraph graph = new RateGraph();
         for (int what = 0; what <= 8; what++) {
@@ -46,7 +39,7 @@ public final class BuildingTest {
     }
 
     private static void objectsAreApart() {
-        RateGraph first = pair();
+        RateGraph first = Graphs.withActors(0, 1);
         first.edge(0, 1, 1, 1, 0);
         RateGraph second = new RateGraph();
         check.due("second object: count(0)", second.count(0), 0);
@@ -70,7 +63,7 @@ public final class BuildingTest {
     }
 
     private static void actorRefusesOtherNumbers() {
-        RateGraph graph = pair();
+        RateGraph graph = Graphs.withActors(0, 1);
         graph.solve(0);
         int[] wrong = {-1, 8, Integer.MIN_VALUE, Integer.MAX_VALUE};
         for (int number : wrong) {
@@ -86,7 +79,7 @@ public final class BuildingTest {
     }
 
     private static void actorAgainKeepsEdgesAndChangesTheGraph() {
-        RateGraph graph = pair();
+        RateGraph graph = Graphs.withActors(0, 1);
         graph.edge(0, 1, 2, 1, 3);
         graph.solve(0);
         check.due("actor again", graph.actor(1, 1, 7), RateGraph.DONE);
@@ -100,7 +93,7 @@ public final class BuildingTest {
     }
 
     private static void edgeAnswersItsNumber() {
-        RateGraph graph = pair();
+        RateGraph graph = Graphs.withActors(0, 1);
         check.due("first edge", graph.edge(0, 1, 1, 1, 0), 0);
         check.due("the other way", graph.edge(1, 0, 6, 6, 12), 1);
         check.due("to itself", graph.edge(1, 1, 6, 6, 6), 2);
@@ -113,7 +106,7 @@ public final class BuildingTest {
     }
 
     private static void edgeRefuses() {
-        RateGraph graph = pair();
+        RateGraph graph = Graphs.withActors(0, 1);
         graph.solve(0);
         int[][] wrong = {
             {2, 0, 1, 1, 0}, {0, 2, 1, 1, 0}, {-1, 0, 1, 1, 0}, {0, -1, 1, 1, 0}, {8, 0, 1, 1, 0}, {0, 8, 1, 1, 0},
@@ -128,7 +121,7 @@ public final class BuildingTest {
     }
 
     private static void edgeIsFullAtTwelve() {
-        RateGraph graph = pair();
+        RateGraph graph = Graphs.withActors(0, 1);
         for (int e = 0; e < 12; e++) {
             check.due("edge " + e, graph.edge(0, 1, 1, 1, e), e);
         }
@@ -142,7 +135,7 @@ public final class BuildingTest {
     }
 
     private static void edgeChangesTheGraph() {
-        RateGraph graph = pair();
+        RateGraph graph = Graphs.withActors(0, 1);
         graph.solve(0);
         graph.edge(0, 1, 1, 1, 0);
         check.due("SOLVED after edge", graph.count(3), 0);
@@ -150,7 +143,7 @@ public final class BuildingTest {
     }
 
     private static void unedgeMovesLaterOnesDown() {
-        RateGraph graph = pair();
+        RateGraph graph = Graphs.withActors(0, 1);
         for (int e = 0; e < 5; e++) {
             graph.edge(0, 1, 1, 1, e + 1);
         }
@@ -171,7 +164,7 @@ public final class BuildingTest {
     }
 
     private static void unedgeRefuses() {
-        RateGraph graph = pair();
+        RateGraph graph = Graphs.withActors(0, 1);
         graph.edge(0, 1, 1, 1, 2);
         graph.solve(0);
         check.due("unedge(-1)", graph.unedge(-1), RateGraph.REFUSED);
@@ -185,7 +178,7 @@ public final class BuildingTest {
     }
 
     private static void unedgeLeavesRoomForNewOnes() {
-        RateGraph graph = pair();
+        RateGraph graph = Graphs.withActors(0, 1);
         for (int e = 0; e < 12; e++) {
             graph.edge(0, 1, 1, 1, e);
         }

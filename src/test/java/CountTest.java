@@ -11,16 +11,8 @@ public final class CountTest {
         check.end();
     }
 
-    private static RateGraph withActors(int... actors) {
-        RateGraph graph = new RateGraph();
-        for (int a : actors) {
-            graph.actor(a, 0, 1);
-        }
-        return graph;
-    }
-
     private static void otherNumbersAreRefused() {
-        RateGraph graph = withActors(0);
+        RateGraph graph = Graphs.withActors(0);
         int[] wrong = {-1, 9, 10, Integer.MIN_VALUE, Integer.MAX_VALUE};
         for (int what : wrong) {
             check.due("count(" + what + ") not SOLVED", graph.count(what), RateGraph.REFUSED);
@@ -32,7 +24,7 @@ public final class CountTest {
     }
 
     private static void partsHangTogetherByEdges() {
-        RateGraph graph = withActors(0, 1, 2, 3, 4, 7);
+        RateGraph graph = Graphs.withActors(0, 1, 2, 3, 4, 7);
         check.due("parts without edges", graph.count(2), 6);
         graph.edge(7, 7, 1, 2, 0);
         check.due("parts with a loop", graph.count(2), 6);
@@ -53,7 +45,7 @@ public final class CountTest {
     }
 
     private static void allCountsOfASolvedGraph() {
-        RateGraph graph = withActors(1, 3, 6);
+        RateGraph graph = Graphs.withActors(1, 3, 6);
         graph.edge(1, 3, 3, 1, 2);
         graph.edge(3, 3, 2, 2, 4);
         graph.solve(1);
@@ -73,7 +65,7 @@ public final class CountTest {
     }
 
     private static void countsOfAnUnsolvedGraph() {
-        RateGraph graph = withActors(1, 3, 6);
+        RateGraph graph = Graphs.withActors(1, 3, 6);
         graph.edge(1, 3, 3, 1, 2);
         graph.solve(0);
         graph.run(1);
@@ -85,10 +77,10 @@ public final class CountTest {
     }
 
     private static void runsAreLongestStretches() {
-        RateGraph graph = withActors(0);
+        RateGraph graph = Graphs.withActors(0);
         graph.solve(0);
         check.due("runs of one firing", graph.count(5), 1);
-        RateGraph chain = withActors(0, 1, 2);
+        RateGraph chain = Graphs.withActors(0, 1, 2);
         chain.edge(0, 1, 2, 1, 0);
         chain.edge(1, 2, 1, 1, 0);
         chain.solve(0);

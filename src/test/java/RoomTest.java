@@ -15,16 +15,8 @@ public final class RoomTest {
         check.end();
     }
 
-    private static RateGraph withActors(int... actors) {
-        RateGraph graph = new RateGraph();
-        for (int a : actors) {
-            graph.actor(a, 0, 1);
-        }
-        return graph;
-    }
-
     private static void peakIsTheMostAfterAnyFiring() {
-        RateGraph graph = withActors(0, 1, 2);
+        RateGraph graph = Graphs.withActors(0, 1, 2);
         graph.edge(0, 1, 3, 2, 0);
         graph.edge(1, 2, 1, 3, 0);
         // 0 fires twice, 1 three times, 2 once.
@@ -40,7 +32,7 @@ public final class RoomTest {
     }
 
     private static void peakIsAtLeastTheDelay() {
-        RateGraph graph = withActors(0, 1);
+        RateGraph graph = Graphs.withActors(0, 1);
         graph.edge(1, 0, 2, 1, 12);
         // Edge 0 has 12, 11, 10 and then 12 tokens.
         graph.solve(0);
@@ -58,7 +50,7 @@ public final class RoomTest {
     }
 
     private static void peakOfALoopIsNotTakenWithinAFiring() {
-        RateGraph graph = withActors(4);
+        RateGraph graph = Graphs.withActors(4);
         graph.edge(4, 4, 3, 3, 5);
         graph.solve(0);
         check.due("peak of a loop", graph.peak(0), 5);
@@ -66,7 +58,7 @@ public final class RoomTest {
     }
 
     private static void peakHangsOnThePolicyAndNotOnTheRun() {
-        RateGraph graph = withActors(0, 1);
+        RateGraph graph = Graphs.withActors(0, 1);
         graph.edge(0, 1, 1, 1, 0);
         graph.edge(0, 0, 1, 1, 1);
         graph.actor(2, 0, 0);
@@ -81,7 +73,7 @@ public final class RoomTest {
     }
 
     private static void peakRefuses() {
-        RateGraph graph = withActors(0, 1);
+        RateGraph graph = Graphs.withActors(0, 1);
         graph.edge(0, 1, 1, 1, 0);
         check.due("peak(0) not SOLVED", graph.peak(0), RateGraph.STATE);
         check.due("peak(1) not SOLVED", graph.peak(1), RateGraph.REFUSED);
@@ -93,7 +85,7 @@ public final class RoomTest {
     }
 
     private static void nestedTakesTheLeastCut() {
-        RateGraph graph = withActors(0, 1, 2, 3);
+        RateGraph graph = Graphs.withActors(0, 1, 2, 3);
         graph.edge(0, 1, 4, 1, 0);
         graph.edge(1, 2, 1, 2, 0);
         graph.edge(2, 3, 4, 1, 0);
@@ -103,7 +95,7 @@ public final class RoomTest {
         graph.solve(1);
         check.due("nested with another policy", graph.nested(), 10);
 
-        RateGraph falling = withActors(0, 1, 2);
+        RateGraph falling = Graphs.withActors(0, 1, 2);
         falling.edge(0, 1, 1, 2, 0);
         falling.edge(1, 2, 1, 3, 0);
         // REPETITIONS 6 3 1: 6 / 3 + 3 is less than 3 + 6.
@@ -112,7 +104,7 @@ public final class RoomTest {
     }
 
     private static void nestedDividesByAllOfTheStretch() {
-        RateGraph graph = withActors(0, 1);
+        RateGraph graph = Graphs.withActors(0, 1);
         graph.edge(0, 1, 2, 3, 0);
         graph.edge(0, 1, 4, 6, 0);
         // REPETITIONS 3 2: both edges cross the one cut.
@@ -120,14 +112,14 @@ public final class RoomTest {
         check.due("nested of two edges", graph.nested(), 6 + 12);
 
         // 2 hangs with none and has the REPETITIONS 1, so stretches with it have the divisor 1.
-        RateGraph apart = withActors(0, 1, 2, 3);
+        RateGraph apart = Graphs.withActors(0, 1, 2, 3);
         apart.edge(0, 1, 6, 1, 0);
         apart.edge(1, 3, 1, 3, 0);
         // REPETITIONS 1 6 1 2: 1 .. 3 costs 6 by each cut and not 3, as 1 and 3 alone would.
         apart.solve(0);
         check.due("nested with an actor apart", apart.nested(), 12);
 
-        RateGraph wide = withActors(0, 1, 2);
+        RateGraph wide = Graphs.withActors(0, 1, 2);
         wide.edge(0, 2, 1, 1, 0);
         wide.edge(0, 1, 2, 1, 0);
         wide.edge(1, 2, 1, 2, 0);
@@ -137,18 +129,18 @@ public final class RoomTest {
     }
 
     private static void nestedLeavesOutLoopsAndAbsentActors() {
-        RateGraph one = withActors(6);
+        RateGraph one = Graphs.withActors(6);
         one.solve(0);
         check.due("nested of one actor", one.nested(), 0);
         one.edge(6, 6, 2, 2, 9);
         one.solve(0);
         check.due("nested of one actor with a loop", one.nested(), 0);
 
-        RateGraph apart = withActors(1, 2, 7);
+        RateGraph apart = Graphs.withActors(1, 2, 7);
         apart.solve(0);
         check.due("nested without edges", apart.nested(), 0);
 
-        RateGraph gap = withActors(1, 5, 7);
+        RateGraph gap = Graphs.withActors(1, 5, 7);
         gap.edge(1, 5, 2, 1, 0);
         gap.edge(5, 7, 3, 3, 0);
         gap.edge(5, 5, 4, 4, 12);
@@ -159,7 +151,7 @@ public final class RoomTest {
     }
 
     private static void nestedNeedsTheShape() {
-        RateGraph graph = withActors(0, 1);
+        RateGraph graph = Graphs.withActors(0, 1);
         check.due("nested not SOLVED", graph.nested(), RateGraph.STATE);
         graph.edge(0, 1, 1, 1, 0);
         graph.edge(0, 1, 1, 1, 1);

@@ -16,6 +16,7 @@ public final class RunningTest {
         allWraps();
         latestRefuses();
         tokensStandInTheOrderOfPutting();
+        theFullestEdgeKeepsAllItsTokens();
         tokenRefuses();
         tokensRefuses();
         check.end();
@@ -225,6 +226,46 @@ public final class RunningTest {
         check.due("count(8)", graph.count(8), 7);
     }
 
+    /** 25 firings of 2 put 6 tokens each behind 12 before 3 takes the first one: the fullest edge that BIG leaves. */
+    private static void theFullestEdgeKeepsAllItsTokens() {
+        RateGraph graph = new RateGraph();
+        graph.actor(0, 0, 1);
+        graph.actor(1, 0, 1);
+        graph.actor(2, 2, 0);
+        graph.actor(3, 2, 0);
+        graph.edge(0, 1, 5, 1, 0);
+        graph.edge(1, 2, 5, 1, 0);
+        graph.edge(2, 3, 6, 6, 12);
+        check.due("solve", graph.solve(0), 56);
+        check.due("peak", graph.peak(2), 12 + 25 * 6);
+        // 0 puts 1 .. 5, so 1 puts 2 .. 6, 3 .. 7, .., 6 .. 10, and the sums are of these.
+        int[] sums = new int[25 * 9];
+        int sum = 0;
+        for (int firing = 0; firing < sums.length; firing++) {
+            sum += 2 + firing % 25 / 5 + firing % 5;
+            sums[firing] = sum;
+        }
+        graph.run(1);
+        graph.run(8);
+        check.due("latest of 2", graph.latest(2), sums[224]);
+        check.due("tokens that are left", graph.tokens(2), 12);
+        for (int i = 0; i < 12; i++) {
+            check.due("token(2, " + i + ")", graph.token(2, i), sums[223 + i / 6] + i % 6);
+        }
+        // 3 took the 12 of the delay, which are 0, and all but the last 12, and sums them up too.
+        int taken = 0;
+        for (int firing = 0; firing < 223; firing++) {
+            for (int j = 0; j < 6; j++) {
+                taken += (sums[firing] + j) * (j + 1);
+            }
+        }
+        check.due("latest of 3", graph.latest(3), taken);
+        graph.solve(0);
+        for (int i = 0; i < 12; i++) {
+            check.due("after solve: token(2, " + i + ")", graph.token(2, i), 0);
+        }
+    }
+
     private static void tokenRefuses() {
         RateGraph graph = new RateGraph();
         graph.actor(0, 0, 8);
@@ -238,6 +279,8 @@ public final class RunningTest {
             check.due("token(" + number + ", 0)", graph.token(number, 0), RateGraph.NONE);
         }
         check.due("token(1, 0)", graph.token(1, 0), RateGraph.NONE);
+        graph.actor(1, 0, 0);
+        check.due("token(0, 0) after a change", graph.token(0, 0), RateGraph.NONE);
     }
 
     private static void tokensRefuses() {

@@ -19,14 +19,6 @@ public final class SolvingTest {
         check.end();
     }
 
-    private static RateGraph withActors(int... actors) {
-        RateGraph graph = new RateGraph();
-        for (int a : actors) {
-            graph.actor(a, 0, 1);
-        }
-        return graph;
-    }
-
     private static void solveTestsThePolicyFirst() {
         RateGraph graph = new RateGraph();
         check.due("solve(-1) of nothing", graph.solve(-1), RateGraph.REFUSED);
@@ -44,7 +36,7 @@ public final class SolvingTest {
     }
 
     private static void repetitionsAreTheLeastInEachPart() {
-        RateGraph graph = withActors(0, 1, 2, 3, 5);
+        RateGraph graph = Graphs.withActors(0, 1, 2, 3, 5);
         graph.edge(0, 1, 2, 4, 0);
         graph.edge(2, 3, 6, 4, 0);
         check.due("solve of three parts", graph.solve(0), 9);
@@ -54,7 +46,7 @@ public final class SolvingTest {
         }
         check.due("repetitions(5)", graph.repetitions(5), 1);
 
-        RateGraph joined = withActors(0, 1, 2, 3);
+        RateGraph joined = Graphs.withActors(0, 1, 2, 3);
         joined.edge(0, 1, 2, 4, 0);
         joined.edge(2, 3, 6, 4, 0);
         joined.edge(3, 0, 2, 3, 0);
@@ -76,7 +68,7 @@ public final class SolvingTest {
     }
 
     private static void repetitionsRefuse() {
-        RateGraph graph = withActors(2);
+        RateGraph graph = Graphs.withActors(2);
         check.due("repetitions not SOLVED", graph.repetitions(2), RateGraph.STATE);
         check.due("repetitions not there, not SOLVED", graph.repetitions(3), RateGraph.REFUSED);
         graph.solve(0);
@@ -88,20 +80,20 @@ public final class SolvingTest {
     }
 
     private static void culpritIsTheLeastEdge() {
-        RateGraph loop = withActors(0);
+        RateGraph loop = Graphs.withActors(0);
         loop.edge(0, 0, 2, 2, 2);
         loop.edge(0, 0, 1, 2, 12);
         loop.edge(0, 0, 1, 3, 12);
         check.due("a loop with two rates", loop.solve(0), RateGraph.INCONSISTENT - 1);
 
-        RateGraph twice = withActors(0, 1);
+        RateGraph twice = Graphs.withActors(0, 1);
         twice.edge(0, 1, 1, 2, 0);
         twice.edge(0, 1, 2, 4, 0);
         check.due("the same ratio twice", twice.solve(0), 3);
         twice.edge(1, 0, 2, 2, 12);
         check.due("another ratio back", twice.solve(0), RateGraph.INCONSISTENT - 2);
 
-        RateGraph late = withActors(0, 1, 2, 3);
+        RateGraph late = Graphs.withActors(0, 1, 2, 3);
         late.edge(0, 1, 1, 2, 0);
         late.edge(2, 3, 1, 3, 0);
         late.edge(0, 3, 1, 1, 0);
@@ -113,7 +105,7 @@ public final class SolvingTest {
         late.unedge(3);
         check.due("then none", late.solve(0), 11);
 
-        RateGraph full = withActors(0, 1);
+        RateGraph full = Graphs.withActors(0, 1);
         for (int e = 0; e < 11; e++) {
             full.edge(0, 1, 1, 1, 0);
         }
@@ -122,7 +114,7 @@ public final class SolvingTest {
     }
 
     private static RateGraph sumOf61() {
-        RateGraph graph = withActors(0, 1, 2, 3);
+        RateGraph graph = Graphs.withActors(0, 1, 2, 3);
         graph.edge(0, 1, 6, 1, 0);
         graph.edge(1, 2, 6, 1, 0);
         graph.edge(1, 3, 3, 1, 0);
@@ -141,12 +133,12 @@ public final class SolvingTest {
         check.due("a sum of 65", graph.solve(0), RateGraph.BIG);
         check.due("SOLVED after BIG", graph.count(3), 0);
 
-        RateGraph most = withActors(0, 1, 2, 3, 4, 5, 6, 7);
+        RateGraph most = Graphs.withActors(0, 1, 2, 3, 4, 5, 6, 7);
         for (int a = 0; a < 7; a++) {
             most.edge(a, a + 1, 6, a % 2 == 0 ? 1 : 5, 0);
         }
         check.due("far too many", most.solve(2), RateGraph.BIG);
-        RateGraph steep = withActors(0, 1, 2, 3, 4, 5, 6, 7);
+        RateGraph steep = Graphs.withActors(0, 1, 2, 3, 4, 5, 6, 7);
         for (int a = 0; a < 7; a++) {
             steep.edge(a, a + 1, 6, 1, 0);
         }
@@ -166,7 +158,7 @@ public final class SolvingTest {
     }
 
     private static void deadlockNamesTheLeastUnfinishedActor() {
-        RateGraph graph = withActors(0, 1, 2, 3);
+        RateGraph graph = Graphs.withActors(0, 1, 2, 3);
         graph.edge(1, 2, 1, 1, 0);
         graph.edge(2, 1, 1, 1, 0);
         for (int policy = 0; policy <= 2; policy++) {
@@ -176,7 +168,7 @@ public final class SolvingTest {
         graph.edge(2, 1, 1, 1, 1);
         check.due("ring with delay", graph.solve(0), 4);
 
-        RateGraph short1 = withActors(5, 7);
+        RateGraph short1 = Graphs.withActors(5, 7);
         short1.edge(5, 7, 1, 2, 0);
         short1.edge(7, 5, 2, 1, 1);
         check.due("an actor that has fired once of twice", short1.solve(0), RateGraph.DEADLOCK - 5);
@@ -184,13 +176,13 @@ public final class SolvingTest {
         short1.edge(7, 5, 2, 1, 2);
         check.due("delay that is just enough", short1.solve(0), 3);
 
-        RateGraph loop = withActors(7);
+        RateGraph loop = Graphs.withActors(7);
         loop.edge(7, 7, 6, 6, 5);
         check.due("a loop that lacks one token", loop.solve(0), RateGraph.DEADLOCK - 7);
     }
 
     private static void failedSolveLeavesTheGraphUnsolved() {
-        RateGraph graph = withActors(0, 1);
+        RateGraph graph = Graphs.withActors(0, 1);
         graph.edge(0, 1, 1, 1, 0);
         graph.solve(0);
         graph.edge(1, 0, 1, 1, 0);
@@ -207,7 +199,7 @@ public final class SolvingTest {
     }
 
     private static void policiesDiffer() {
-        RateGraph graph = withActors(1, 2, 3);
+        RateGraph graph = Graphs.withActors(1, 2, 3);
         graph.edge(2, 1, 1, 1, 0);
         graph.solve(0);
         check.dueSchedule("policy 0", graph, "213");
@@ -218,7 +210,7 @@ public final class SolvingTest {
     }
 
     private static void policyZeroTakesTheLeast() {
-        RateGraph graph = withActors(0, 1, 2);
+        RateGraph graph = Graphs.withActors(0, 1, 2);
         graph.edge(2, 1, 2, 1, 0);
         graph.edge(1, 0, 1, 1, 0);
         graph.solve(0);
@@ -230,7 +222,7 @@ public final class SolvingTest {
     }
 
     private static void policyOneTakesTheLeastOfEqualOnes() {
-        RateGraph graph = withActors(0, 1, 2);
+        RateGraph graph = Graphs.withActors(0, 1, 2);
         graph.edge(0, 1, 2, 1, 0);
         graph.edge(1, 2, 1, 1, 0);
         graph.solve(1);
@@ -238,12 +230,12 @@ public final class SolvingTest {
         graph.solve(0);
         check.dueSchedule("upwards, policy 0", graph, "01122");
 
-        RateGraph equal = withActors(4, 5, 6);
+        RateGraph equal = Graphs.withActors(4, 5, 6);
         equal.solve(1);
         check.dueSchedule("equal ones, policy 1", equal, "456");
 
         // 1 puts nine tokens and 0 four, but 1 takes six of its own before: it wins three only.
-        RateGraph loops = withActors(0, 1, 2);
+        RateGraph loops = Graphs.withActors(0, 1, 2);
         loops.edge(0, 2, 4, 4, 0);
         loops.edge(1, 2, 3, 3, 0);
         loops.edge(1, 1, 6, 6, 6);
@@ -252,7 +244,7 @@ public final class SolvingTest {
     }
 
     private static void policyTwoGoesOnAndThenAround() {
-        RateGraph graph = withActors(0, 3, 5, 6);
+        RateGraph graph = Graphs.withActors(0, 3, 5, 6);
         graph.edge(3, 0, 1, 2, 1);
         graph.edge(5, 6, 3, 1, 0);
         graph.edge(6, 3, 2, 3, 0);
@@ -262,7 +254,7 @@ public final class SolvingTest {
         graph.solve(0);
         check.dueSchedule("around, policy 0", graph, "5663063");
 
-        RateGraph stop = withActors(0, 1, 2);
+        RateGraph stop = Graphs.withActors(0, 1, 2);
         stop.edge(2, 0, 2, 1, 0);
         stop.edge(0, 1, 1, 1, 0);
         stop.edge(1, 0, 1, 1, 1);
@@ -271,7 +263,7 @@ public final class SolvingTest {
     }
 
     private static void schedulePlaces() {
-        RateGraph graph = withActors(0, 1);
+        RateGraph graph = Graphs.withActors(0, 1);
         graph.edge(0, 1, 1, 3, 0);
         check.due("schedule(0) not SOLVED", graph.schedule(0), RateGraph.STATE);
         check.due("schedule(9) not SOLVED", graph.schedule(9), RateGraph.STATE);
