@@ -597,10 +597,11 @@ public final class RateGraph {
 
     private int costOfStretch(int i, int j) {
         int divisor = divisorOfStretch(i, j);
-        int least = Integer.MAX_VALUE;
+        int least = 0;
         for (int cut = i; cut < j; cut++) {
             int crossing = tokensAcross(order[i], order[cut], order[j]) / divisor;
-            least = Math.min(least, cost[i][cut] + cost[cut + 1][j] + crossing);
+            int sum = cost[i][cut] + cost[cut + 1][j] + crossing;
+            least = cut == i ? sum : Math.min(least, sum);
         }
         return least;
     }

@@ -15,9 +15,13 @@ final class Check {
         for (int i = 0; i < graph.count(4); i++) {
             got.append(graph.schedule(i));
         }
-        if (!got.toString().equals(want)) {
+        dueText(title + ": the schedule", got.toString(), want);
+    }
+
+    void dueText(String title, String got, String want) {
+        if (!got.equals(want)) {
             wrong++;
-            System.out.println(title + ": the schedule is " + got + ", due is " + want);
+            System.out.println(title + " is " + got + ", due is " + want);
         }
     }
 
