@@ -233,6 +233,7 @@ public final class BuildingBoundsTest {
         }
     }
 
+    /** "at most 12": of the full graph each edge can be taken away, and then one new one has room. */
     private static void unedgeOfTheFullGraphMakesRoomForOne() {
         for (int e = 0; e < 12; e++) {
             RateGraph graph = Graphs.withEdges(12);
@@ -249,6 +250,7 @@ public final class BuildingBoundsTest {
         }
     }
 
+    /** "Answers how many are left.": down to 0, and then "no such edge: REFUSED". */
     private static void unedgeDownToNothing() {
         RateGraph graph = Graphs.withEdges(12);
         for (int left = 11; left >= 0; left--) {

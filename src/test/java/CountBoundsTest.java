@@ -40,6 +40,7 @@ public final class CountBoundsTest {
         }
     }
 
+    /** "Actors (0), edges (1), PARTS (2), 1 if SOLVED, else 0 (3), .." of the empty graph. */
     private static void allOfTheEmptyGraph() {
         RateGraph graph = new RateGraph();
         checkAll("empty", graph, 0, 0, 0, 0, 0, 0, 0, 0, 0);
@@ -47,6 +48,7 @@ public final class CountBoundsTest {
         checkAll("empty after solve", graph, 0, 0, 0, 0, 0, 0, 0, 0, 0);
     }
 
+    /** "Actors (0), edges (1), PARTS (2), 1 if SOLVED, else 0 (3), .." of the full graph. */
     private static void allOfTheFullGraph() {
         RateGraph graph = Graphs.full();
         checkAll("full, not SOLVED", graph, 8, 12, 1, 0, 0, 0, 0, 0, 0);
@@ -57,6 +59,7 @@ public final class CountBoundsTest {
         checkAll("full after runs", graph, 8, 12, 1, 1, 8, 8, 21 + 7 * 2 + 15, 64, 21 + 15);
     }
 
+    /** "Actors (0), edges (1), PARTS (2), 1 if SOLVED, else 0 (3), .." of the least graph that can be SOLVED. */
     private static void allOfOneActor() {
         RateGraph graph = Graphs.withActors(7);
         checkAll("one, not SOLVED", graph, 1, 0, 1, 0, 0, 0, 0, 0, 0);

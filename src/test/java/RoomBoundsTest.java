@@ -94,6 +94,7 @@ public final class RoomBoundsTest {
         }
     }
 
+    /** "the most tokens that are on it": the most that 64 firings allow. */
     private static void peakOfTheFullestEdge() {
         RateGraph graph = Graphs.withActors(0, 1, 2, 3);
         graph.edge(0, 1, 5, 1, 0);
@@ -107,6 +108,7 @@ public final class RoomBoundsTest {
         check.due("12 and no more with policy 1", graph.peak(2), 12);
     }
 
+    /** "after any firing of THE SCHEDULE": of the one that was made last, and of no run. */
     private static void peakIsOfTheLastSolve() {
         RateGraph graph = Graphs.withActors(0, 1);
         graph.edge(0, 1, 1, 6, 12);
@@ -236,6 +238,7 @@ public final class RoomBoundsTest {
         check.due("nested with a cut in the middle", middle.nested(), 14);
     }
 
+    /** "Its cost for all actors is the NESTED ROOM": for all eight with twelve edges. */
     private static void nestedOfTheFullGraph() {
         RateGraph graph = Graphs.withAllActors();
         for (int a = 0; a < 7; a++) {

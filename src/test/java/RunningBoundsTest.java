@@ -56,6 +56,7 @@ public final class RunningBoundsTest {
         }
     }
 
+    /** "Answers how many firings there were.": the fewest and the most. */
     private static void firingsOfTheShortestAndTheLongestRun() {
         RateGraph one = Graphs.withActors(7);
         one.solve(0);
@@ -329,7 +330,7 @@ public final class RunningBoundsTest {
         check.due("LATEST is Y itself", graph.latest(0), 2147483645L);
     }
 
-    /** Loops and an edge that never get empty, over some thousand tokens, against queues. */
+    /** "taken in the order in which they were put": loops and an edge that never get empty, against queues. */
     private static void tokensGoAroundForALongTime() {
         RateGraph graph = new RateGraph();
         graph.actor(0, 2, 0);

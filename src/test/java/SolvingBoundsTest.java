@@ -96,6 +96,7 @@ public final class SolvingBoundsTest {
         }
     }
 
+    /** "also if SOLVED already (then anew)": with the policy of the last solve that was not refused. */
     private static void solveAnewWithAnotherPolicy() {
         RateGraph graph = Graphs.withActors(0, 1, 2);
         graph.edge(2, 1, 2, 1, 0);
